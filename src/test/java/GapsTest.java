@@ -121,6 +121,14 @@ public final class GapsTest {
             seen 0 1 0 = 12
             seen 0 1 1 = -9
             """);
+        // GAPS 14 14 10 14 24 14 10: those seen again do not push the third one on
+        CALLS.run("14 seen: each LENGTH once", """
+            walker 0 38 5 0 = 0
+            seen 0 7 0 = 14
+            seen 0 7 1 = 10
+            seen 0 7 2 = 24
+            seen 0 7 3 = -9
+            """);
         // MARKS 3 8: the GAP from 8 goes round and is the second one
         CALLS.run("14 seen: from the least MARK on, not from 0", TWELVE + """
             seen 0 2 0 = 5
