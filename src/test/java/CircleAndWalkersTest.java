@@ -91,7 +91,10 @@ public final class CircleAndWalkersTest {
             letters x1;s10039;
             walk = 2
             count 0 = 2
+            of 0 0 = 1
             of 0 1 = 11
+            of 0 2 = 12
+            of 0 3 = 1
             of 1 0 = 3
             of 1 1 = 39
             of 1 2 = 32

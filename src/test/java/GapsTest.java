@@ -100,6 +100,11 @@ public final class GapsTest {
             many 0 2 0 = 1
             many 0 2 1 = 1
             """);
+        CALLS.run("13 many: one MARK, at 0", """
+            walker 0 5 0 0 = 0
+            many 0 1 0 = 1
+            many 0 1 1 = -9
+            """);
     }
 
     private static void seen() {
@@ -143,6 +148,8 @@ public final class GapsTest {
             split 0 5 1 = 1
             split 0 1 0 = 3
             split 0 1 1 = 5
+            split 0 7 0 = 1
+            split 0 7 1 = 1
             split 0 12 0 = -9
             split 0 12 1 = -9
             """);

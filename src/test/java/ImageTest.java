@@ -93,6 +93,7 @@ public final class ImageTest {
             walker 1 21 22 5 = 1
             image = 2
             circle 50 = 100
+            change 0 0 2 = 3
             change 0 1 5 = 11
             change 1 0 0 = 1
             change 1 2 0 = 22
