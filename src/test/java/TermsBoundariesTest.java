@@ -26,6 +26,7 @@ public final class TermsBoundariesTest {
         walkForm();
         walkLetterByLetter();
         walkNumbers();
+        walkWalkers();
         walkBehindOthers();
         lists();
         judged();
@@ -33,6 +34,7 @@ public final class TermsBoundariesTest {
         oddsAndLots();
         undone();
         image();
+        besideTheImage();
         fractions();
         refusals();
         CALLS.end();
@@ -264,6 +266,8 @@ public final class TermsBoundariesTest {
             place 0 4000 = 1961
             place 0 1037 = 1014
             """);
+        CALLS.run("1 SQUARE, MIRRORED, SKIPPING under WALKER, PAIRED under MIRRORED, TURNED under SQUARE",
+                takenForEach());
         CALLS.run("1 FIGURE counts for SKIPPING and TURNED alone", """
             walker 0 7 1 0 = 0
             walker 0 7 1 9 = 1
@@ -282,6 +286,20 @@ public final class TermsBoundariesTest {
             place 0 20 = 31
             place 1 20 = 31
             """);
+    }
+
+    /** Each KIND taken for each: only for itself and for those that it stands under. */
+    private static String takenForEach() {
+        String[] ownAndAbove = {"0", "10", "20", "30", "420", "510"};
+        StringBuilder rows = new StringBuilder("walker 0 1 1 1 = 0\n");
+        for (int kind = 0; kind < KINDS; kind++) {
+            rows.append("change 0 0 ").append(kind).append(" = ").append(Math.max(0, kind - 1)).append('\n');
+            for (int other = 0; other < KINDS; other++) {
+                boolean fits = ownAndAbove[kind].indexOf('0' + other) >= 0;
+                rows.append("taken 0 ").append(other).append(" = ").append(fits ? kind : -16).append('\n');
+            }
+        }
+        return rows.toString();
     }
 
     // ---- part 2
@@ -705,6 +723,16 @@ public final class TermsBoundariesTest {
             shared 0 1 100 0 = 0
             shared 0 1 101 0 = 2
             """);
+        CALLS.run("2 SHARED: of all MARKS with the only one, whichever of the two it is", """
+            walker 0 1 0 0 = 0
+            walker 0 0 99 0 = 1
+            shared 0 1 99 0 = 0
+            shared 0 1 99 1 = -9
+            shared 0 1 100 0 = 1
+            shared 0 1 100 1 = 99
+            shared 1 0 100 0 = 1
+            shared 1 0 100 1 = 99
+            """);
         CALLS.run("2 SHARED: round behind 0, not at the same k", """
             walker 0 1 99 0 = 0
             walker 2 1 1 0 = 1
@@ -806,6 +834,26 @@ public final class TermsBoundariesTest {
             nearest 1 2 1 = 1
             nearest 2 99 0 = 0
             nearest 2 99 1 = 1
+            """);
+        CALLS.run("3 NEAREST: b one below, at and above what is nearer", """
+            walker 0 38 0 0 = 0
+            nearest 0 2 0 = 1
+            nearest 0 2 1 = 2
+            nearest 0 3 0 = 1
+            nearest 0 3 1 = 3
+            nearest 0 4 1 = 3
+            nearest 0 5 0 = 2
+            nearest 0 5 1 = 5
+            nearest 0 7 1 = 5
+            nearest 0 8 0 = 3
+            nearest 0 8 1 = 8
+            nearest 0 28 0 = 8
+            nearest 0 28 1 = 21
+            nearest 0 29 0 = 11
+            nearest 0 29 1 = 29
+            nearest 0 49 1 = 29
+            nearest 0 50 0 = 19
+            nearest 0 50 1 = 50
             """);
         CALLS.run("3 NEAREST: then the least h", """
             walker 0 50 0 0 = 0
@@ -1022,6 +1070,28 @@ public final class TermsBoundariesTest {
             of 0 2 = 99
             of 0 3 = 9
             """);
+        CALLS.run("4 w: each of its numbers in its own place, the least and the greatest", """
+            letters c2000;w5123415678;w0000000000;w5199919999;
+            walk = 4
+            of 0 0 = 5
+            of 0 1 = 1234
+            of 0 2 = 1567
+            of 0 3 = 8
+            of 1 0 = 0
+            of 1 1 = 0
+            of 1 2 = 0
+            of 1 3 = 0
+            of 2 0 = 5
+            of 2 1 = 1999
+            of 2 2 = 1999
+            of 2 3 = 9
+            letters s21234;s10001;
+            walk = 2
+            of 0 1 = 1234
+            of 1 1 = 1
+            of 2 1 = 1234
+            of 2 2 = 1999
+            """);
         CALLS.run("4 a number out of range: s STEP above Q less 1", """
             walker 0 0 0 0 = 0
             letters s00099;
@@ -1035,6 +1105,9 @@ public final class TermsBoundariesTest {
             walk = 1
             of 0 1 = 0
             """);
+    }
+
+    private static void walkWalkers() {
         CALLS.run("4 no such WALKER: s, x", """
             letters s00000;
             walk = -2000
@@ -1341,10 +1414,16 @@ public final class TermsBoundariesTest {
             lots 1 -1 1 = LOT_MINUS
             """.replace("LOT_0", lot(0)).replace("LOT_MOST", lot(2147483647))
                 .replace("LOT_LEAST", lot(-2147483648)).replace("LOT_MINUS", lot(-1)));
-        CALLS.run("4 LOTS: the seed is not kept", """
+        CALLS.run("4 LOTS: the seed is not kept, nor what was drawn or marked", """
             walker 0 38 5 0 = 0
             lots 50 12345 1 = 2454
             lots 50 12345 1 = 2454
+            change 0 1 0 = 38
+            lots 50 12345 0 = 1
+            change 0 2 6 = 5
+            lengths 0 200 -1 = 1
+            lots 50 12345 0 = 1
+            lots 50 12345 1 = 300
             """);
     }
 
@@ -1380,10 +1459,36 @@ public final class TermsBoundariesTest {
             rows.append("count 3 = ").append(can).append('\n');
             for (int i = can - 1; i >= 0; i--) {
                 rows.append("undo = ").append(i).append('\n');
+                rows.append("of 0 2 = ").append(made - can + i).append('\n');
             }
             rows.append("undo = -3\nof 0 2 = ").append(made - can).append('\n');
             CALLS.run("4 the latest first, 16 at most (older ones no more): " + made, rows.toString());
         }
+        CALLS.run("4 UNDONE: of each WALKER each of its four, the latest first", """
+            walker 0 10 11 1 = 0
+            walker 1 20 21 2 = 1
+            walker 2 30 31 3 = 2
+            change 2 0 5 = 2
+            change 0 3 9 = 1
+            change 1 1 99 = 20
+            change 2 2 0 = 31
+            change 1 1 98 = 99
+            undo = 4
+            of 1 1 = 99
+            of 2 2 = 0
+            undo = 3
+            of 2 2 = 31
+            of 1 1 = 99
+            undo = 2
+            of 1 1 = 20
+            of 0 3 = 9
+            undo = 1
+            of 0 3 = 1
+            of 2 0 = 5
+            undo = 0
+            of 2 0 = 2
+            undo = -3
+            """);
         leavesNone("walker 0 0 0 0 = 1", "walker 0 0 0 10 = -6");
         leavesNone("drop = 0", null);
         leavesNone("circle 100 = 100", "circle 5 = -3");
@@ -1438,6 +1543,38 @@ public final class TermsBoundariesTest {
             of 4 2 = 52
             of 4 3 = 5
             walker 0 0 0 0 = -6
+            """);
+        CALLS.run("4 THE IMAGE: WALKERS with all that is theirs, changed since or not", """
+            walker 5 98 97 9 = 0
+            walker 4 96 95 8 = 1
+            image = 2
+            change 0 0 1 = 5
+            change 0 1 2 = 98
+            change 0 2 3 = 97
+            change 0 3 4 = 9
+            change 1 3 5 = 8
+            on = 2
+            of 0 0 = 5
+            of 0 1 = 98
+            of 0 2 = 97
+            of 0 3 = 9
+            of 1 0 = 4
+            of 1 3 = 8
+            change 0 0 0 = 5
+            on = 2
+            of 0 0 = 5
+            """);
+    }
+
+    private static void besideTheImage() {
+        CALLS.run("4 THE IMAGE: how many REFUSALS there were stays", """
+            on = -3
+            image = 0
+            drop = -3
+            of 0 0 = -1
+            on = 0
+            count 13 = 2
+            count 11 = 1
             """);
         CALLS.run("4 (letters, LISTS stay)", """
             letters c00
